@@ -262,6 +262,15 @@ public final class PromiseTests {
         due("rows so far", moss.count(3), 120);
         due("the last row", moss.row(119, 0), 9);
         due("no row behind it", moss.row(120, 0), UNKNOWN);
+        write(moss, "s9");
+        due("all dry", moss.passAll(), 9);
+        due("dry ones", moss.count(5), 60);
+        due("the last one stacked", moss.stack(119), 1);
+        due("the first of 9", moss.driest(9, 0), 114);
+        due("the last of 9", moss.driest(9, 5), 119);
+        due("stacked ones", moss.count(4), 1);
+        due("brought home", moss.would(60, 1), 1);
+        due("rows of 9", moss.commoner(9, 3), 6);
         moss.endYear();
         due("plots stay as they are cut", moss.why(9, 19), 2);
         due("so no cut", moss.cut(9, 19), NOT_POSSIBLE);
@@ -719,6 +728,9 @@ public final class PromiseTests {
         moss.set(0, 6);
         due("set", moss.undo(), 0);
         due("setting", moss.count(11), 3);
+        moss.set(1, 1);
+        moss.undo();
+        due("stakes", moss.count(12), 0);
         moss.pass(0);
         due("pass", moss.undo(), 0);
         due("cart", moss.cart(0), 0);
@@ -799,6 +811,39 @@ public final class PromiseTests {
         moss.turn(0);
         due("it stays as it was", moss.restore(), 1);
         due("row of the snapshot", moss.row(0, 3), 0);
+        restoreOverOtherRows();
+    }
+
+    /** What was undone is done in another way, so that the same numbers mean other rows and disputes. */
+    private static void restoreOverOtherRows() {
+        PeatBanks moss = new PeatBanks();
+        moss.cut(2, 3);
+        moss.cut(2, 4);
+        moss.set(1, 1);
+        moss.keep();
+        moss.undo();
+        moss.undo();
+        moss.undo();
+        moss.cut(7, 16);
+        moss.cut(7, 13);
+        moss.restore();
+        int[] dispute = {2, 1, 0, 3};
+        for (int what = 0; what < 4; what++) {
+            due("dispute of the snapshot " + what, moss.dispute(0, what), dispute[what]);
+        }
+        due("owner in the snapshot", moss.row(0, 0), 2);
+        due("plot in the snapshot", moss.row(0, 1), 3);
+        due("plot in the snapshot, next", moss.row(1, 1), 4);
+        due("stakes of the snapshot", moss.count(12), 1);
+        moss.undo();
+        int[] other = {7, 8, 0, 16};
+        int[] next = {7, 6, 1, 13};
+        due("two trespasses", moss.count(9), 2);
+        for (int what = 0; what < 4; what++) {
+            due("dispute of the other way " + what, moss.dispute(0, what), other[what]);
+            due("next of the other way " + what, moss.dispute(1, what), next[what]);
+        }
+        due("stakes of the other way", moss.count(12), 0);
     }
 
     private static void commoner() {
@@ -1010,6 +1055,9 @@ public final class PromiseTests {
             moss.stack(row);
         }
         due("states", moss.count(13), 4);
+        due("count of stacked ones", moss.count(4), 6);
+        due("count of dry ones", moss.count(5), 6);
+        due("one day", moss.would(1, 2), 0);
         due("three days", moss.would(3, 0), 0);
         due("four days", moss.would(4, 2), 4);
         due("eight days", moss.would(8, 1), 4);
