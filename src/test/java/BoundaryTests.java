@@ -883,6 +883,9 @@ public final class BoundaryTests {
         due("row 0", moss.row(0, 0), 7);
         due("row 1", moss.row(1, 0), 1);
         due("nothing for the owner now", moss.commoner(8, 3), 0);
+        times(moss, 5, SUN);
+        due("its new owner has one stacked row", moss.stack(0), 1);
+        due("the one who cut has none", moss.commoner(0, 4), 0);
     }
 
     /** "A dispute is open until it is settled." "Settles the oldest open dispute." "NONE if none is open." */
