@@ -366,10 +366,10 @@ public final class PeatBanks {
         if (rank < 0 || !isWithin(what, 0, 3)) {
             return BAD_VALUE;
         }
-        if (rank >= now.disputes.countOpen()) {
+        int dispute = now.disputes.openOfRank(rank);
+        if (dispute == NONE) {
             return NONE;
         }
-        int dispute = now.disputes.settled + rank;
         switch (what) {
             case 0:
                 return now.disputes.cutter[dispute];
@@ -608,10 +608,10 @@ public final class PeatBanks {
 
         /** Settles the oldest open dispute, where there is one. */
         int settleOldest() {
-            if (disputes.countOpen() == 0) {
+            int dispute = disputes.openOfRank(0);
+            if (dispute == NONE) {
                 return NONE;
             }
-            int dispute = disputes.settled;
             disputes.settled++;
             int cutter = disputes.cutter[dispute];
             if (stakes == 0) {
@@ -665,7 +665,6 @@ public final class PeatBanks {
         final boolean[] turned = new boolean[MOST_ROWS_EVER];
         final boolean[] stacked = new boolean[MOST_ROWS_EVER];
         final boolean[] lying = new boolean[MOST_ROWS_EVER];
-        /** Stays within 0 to MOST_ROWS_EVER, as lay() alone raises it. */
         int soFar;
 
         void copyFrom(Rows other) {
@@ -680,6 +679,11 @@ public final class PeatBanks {
 
         boolean hasNumberLeft() {
             return soFar < MOST_ROWS_EVER;
+        }
+
+        /** One behind the last number; each array has room for all numbers below it. */
+        private int end() {
+            return Math.min(soFar, MOST_ROWS_EVER);
         }
 
         /** Lays a fresh row and answers its number. */
@@ -699,7 +703,7 @@ public final class PeatBanks {
         }
 
         boolean isLying(int row) {
-            return isWithin(row, 0, soFar - 1) && lying[row];
+            return isWithin(row, 0, end() - 1) && lying[row];
         }
 
         private boolean isLyingOf(int row, int commoner) {
@@ -720,7 +724,7 @@ public final class PeatBanks {
 
         int countLying() {
             int count = 0;
-            for (int row = 0; row < soFar; row++) {
+            for (int row = 0, end = end(); row < end; row++) {
                 count += oneIf(lying[row]);
             }
             return count;
@@ -728,7 +732,7 @@ public final class PeatBanks {
 
         int countStacked() {
             int count = 0;
-            for (int row = 0; row < soFar; row++) {
+            for (int row = 0, end = end(); row < end; row++) {
                 count += oneIf(isStacked(row));
             }
             return count;
@@ -736,7 +740,7 @@ public final class PeatBanks {
 
         int countDry() {
             int count = 0;
-            for (int row = 0; row < soFar; row++) {
+            for (int row = 0, end = end(); row < end; row++) {
                 count += oneIf(isDry(row));
             }
             return count;
@@ -744,7 +748,7 @@ public final class PeatBanks {
 
         int countLyingOf(int commoner) {
             int count = 0;
-            for (int row = 0; row < soFar; row++) {
+            for (int row = 0, end = end(); row < end; row++) {
                 count += oneIf(isLyingOf(row, commoner));
             }
             return count;
@@ -752,7 +756,7 @@ public final class PeatBanks {
 
         int countStackedOf(int commoner) {
             int count = 0;
-            for (int row = 0; row < soFar; row++) {
+            for (int row = 0, end = end(); row < end; row++) {
                 count += oneIf(isStacked(row) && owner[row] == commoner);
             }
             return count;
@@ -760,7 +764,7 @@ public final class PeatBanks {
 
         /** The row of that rank by wetness, then by number, or NONE. */
         int driestOf(int commoner, int rank) {
-            for (int row = 0; row < soFar; row++) {
+            for (int row = 0, end = end(); row < end; row++) {
                 if (isLyingOf(row, commoner) && countDrierThan(row, commoner) == rank) {
                     return row;
                 }
@@ -770,7 +774,7 @@ public final class PeatBanks {
 
         private int countDrierThan(int row, int commoner) {
             int count = 0;
-            for (int other = 0; other < soFar; other++) {
+            for (int other = 0, end = end(); other < end; other++) {
                 count += oneIf(isLyingOf(other, commoner) && comesBefore(other, row));
             }
             return count;
@@ -784,7 +788,7 @@ public final class PeatBanks {
         /** The stacked row that a cart takes first, or NONE. */
         int driestStackedOf(int commoner) {
             int driest = NONE;
-            for (int row = 0; row < soFar; row++) {
+            for (int row = 0, end = end(); row < end; row++) {
                 if (lying[row] && stacked[row] && owner[row] == commoner
                         && (driest == NONE || wetness[row] < wetness[driest])) {
                     driest = row;
@@ -795,7 +799,7 @@ public final class PeatBanks {
 
         /** A day of weather for all rows that are not stacked. */
         void dryOrWet(int weather) {
-            for (int row = 0; row < soFar; row++) {
+            for (int row = 0, end = end(); row < end; row++) {
                 if (lying[row] && !stacked[row]) {
                     int wet = wetness[row] + changeBy(weather, turned[row]);
                     wetness[row] = Math.max(0, Math.min(MOST_WETNESS, wet));
@@ -817,7 +821,7 @@ public final class PeatBanks {
         /** Takes all rows away and answers how many there were. */
         int loseAll() {
             int gone = countLying();
-            for (int row = 0; row < soFar; row++) {
+            for (int row = 0, end = end(); row < end; row++) {
                 lying[row] = false;
             }
             return gone;
@@ -832,7 +836,6 @@ public final class PeatBanks {
         final int[] plot = new int[MOST_ROWS_EVER];
         /** Settled or dropped; within 0 to soFar. */
         int settled;
-        /** Within 0 to MOST_ROWS_EVER, as open() alone raises it. */
         int soFar;
 
         void copyFrom(Disputes other) {
@@ -854,13 +857,23 @@ public final class PeatBanks {
             }
         }
 
+        /** One behind the last dispute; each array has room for all before it. */
+        private int end() {
+            return Math.min(soFar, MOST_ROWS_EVER);
+        }
+
         int countOpen() {
-            return soFar - settled;
+            return end() - settled;
+        }
+
+        /** The place of the open dispute of that rank, or NONE. */
+        int openOfRank(int rank) {
+            return isWithin(rank, 0, countOpen() - 1) ? settled + rank : NONE;
         }
 
         int countOpenWith(int commoner) {
             int count = 0;
-            for (int dispute = settled; dispute < soFar; dispute++) {
+            for (int dispute = settled, end = end(); dispute < end; dispute++) {
                 count += oneIf(cutter[dispute] == commoner || wronged[dispute] == commoner);
             }
             return count;

@@ -5,6 +5,7 @@ import java.lang.reflect.Method;
 import java.lang.reflect.Modifier;
 import java.nio.file.Files;
 import java.nio.file.Path;
+import java.util.ArrayList;
 import java.util.List;
 import java.util.Set;
 import java.util.TreeSet;
@@ -28,6 +29,13 @@ public final class FaceAndLanguage {
             "static\\s*\\{", "\\b\\w+Exact\\b", "\\bSystem\\.(?!arraycopy\\b)", "\"",
             "\\bequals\\b", "\\bhashCode\\b", "\\btoString\\b");
 
+    private static final List<String> ORDER = List.of(
+            "---- rights", "lend", "handOver", "setDays", "set",
+            "---- work", "cut", "turn", "stack", "pass", "passAll", "settle", "endYear",
+            "---- texts", "type", "clearText",
+            "---- history", "undo", "keep", "restore",
+            "---- what is told", "commoner", "plot", "row", "driest", "why", "dispute", "cart", "would", "count");
+
     private static int wrong = 0;
 
     private static void expect(boolean so, String what) {
@@ -40,6 +48,7 @@ public final class FaceAndLanguage {
     public static void main(String[] args) throws IOException {
         face();
         classesInside();
+        order(Files.readString(SOURCE));
         String code = Files.readString(SOURCE).replaceAll("(?s)/\\*.*?\\*/", "").replaceAll("//.*", "");
         for (String forbidden : FORBIDDEN) {
             Matcher matcher = Pattern.compile(forbidden).matcher(code);
@@ -86,6 +95,16 @@ public final class FaceAndLanguage {
                     field + " is final, as it is static");
         }
         expect(constants == 5, "there are five public constants");
+    }
+
+    /** "Ahead of the calls .. the interface says": the headings and the calls stand in the document's order. */
+    private static void order(String source) {
+        List<String> found = new ArrayList<>();
+        Matcher matcher = Pattern.compile("(?m)^    // (---- .*)$|^    public int (\\w+)\\(").matcher(source);
+        while (matcher.find() && found.size() < ORDER.size()) {
+            found.add(matcher.group(1) == null ? matcher.group(2) : matcher.group(1));
+        }
+        expect(found.equals(ORDER), "the headings and calls stand in the document's order: " + found);
     }
 
     private static String signature(Method method) {
